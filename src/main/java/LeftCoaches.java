@@ -558,11 +558,6 @@ public final class LeftCoaches {
         int size = 0;
         int next = 0;
 
-        void wipe() {
-            size = 0;
-            next = 0;
-        }
-
         void copyFrom(LeftBook other) {
             System.arraycopy(other.rows, 0, rows, 0, MOST_LEFTS * LEFT_ROW);
             size = other.size;
@@ -607,12 +602,6 @@ public final class LeftCoaches {
 
         Day(Line road) {
             this.road = road;
-        }
-
-        void wipe() {
-            horns = 0;
-            lanterns = 0;
-            lefts.wipe();
         }
 
         void copyFrom(Day other) {
@@ -806,7 +795,10 @@ public final class LeftCoaches {
         }
     }
 
-    /** Reads the text into a line and a day of its own, so that a fault leaves the true ones as they were. */
+    /**
+     * Reads the text into a line and a day of its own, so that a fault leaves the true ones as they were.
+     * No horn is ever blown on that day: its horns, pence and book of lefts stay as they were made.
+     */
     private static final class Reader {
         final int[] text = new int[MOST_LETTERS];
         int size = 0;
@@ -828,7 +820,7 @@ public final class LeftCoaches {
             fault = 0;
             faultAt = NONE;
             road.wipe();
-            day.wipe();
+            day.lanterns = 0;
             for (int clause = 0; clause <= MOST_LETTERS; clause++) {
                 skipBlanks();
                 if (fault != 0 || pos >= size) {
@@ -899,7 +891,6 @@ public final class LeftCoaches {
             day.slow[p] = number(0, MOST_SLOW);
             road.wants[p] = number(0, road.inns - 1);
             day.booked[p] = booking();
-            day.pence[p] = 0;
             road.passengers = p + 1;
         }
 

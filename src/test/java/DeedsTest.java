@@ -22,6 +22,7 @@ public final class DeedsTest {
         driftAlone();
         undoOfEach();
         undoKeepsSixteen();
+        undoBringsLostLeftsBack();
         refusedIsNotUndone();
         check.end();
     }
@@ -372,6 +373,20 @@ public final class DeedsTest {
         }
         check.due("the oldest are lost", x.undo(), NOT);
         check.due("SLOW", x.passenger(0, 3), 4);
+    }
+
+    /** The book of lefts is full when what is undone is done, so that its oldest row must come back. */
+    private static void undoBringsLostLeftsBack() {
+        LeftCoaches x = Check.of("l2 0;c0 1 0;p0 0 9 0 9;p0 1 9 1 9;");
+        for (int horn = 0; horn < 23; horn++) {
+            x.book(horn % 2, 0);
+            x.horn(0);
+        }
+        check.due("the oldest", x.lefts(19, 0), 3);
+        x.undo();
+        check.due("the oldest, back again", x.lefts(19, 0), 2);
+        check.due("the latest", x.lefts(0, 0), 21);
+        check.due("how many", x.told(9), 20);
     }
 
     private static void refusedIsNotUndone() {

@@ -224,8 +224,16 @@ public final class LineTest {
         x.horn(1);
         check.due("1 is paid a penny", x.passenger(1, 6), 100001);
         check.due("like coaches, more pence", x.told(8), 1);
+        x = Check.of("l4 0;c0 1 0;c0 1 0;p0 0 5 2 0;p0 0 6 2 1;p0 1 0 3 0;p0 1 0 3 0;p0 1 0 3 1;p0 0 9 3 9;");
+        x.rounds(2);
+        check.due("0 is paid two", x.passenger(0, 6), 100002);
+        check.due("1 is paid one", x.passenger(1, 6), 100001);
+        check.due("like coaches, fewer pence", x.told(8), 0);
+        x = Check.of("l3 0;c0 1 0;c0 1 0;c0 1 0;p0 0 5 2 0;p0 0 6 2 1;p0 0 0 2 1;");
+        x.horn(0);
+        x.horn(1);
+        check.due("1 has more pence", x.told(8), 1);
         x.book(0, 2);
-        x.waits(2, 0);
         x.horn(2);
         check.due("0 owns two", x.passenger(0, 7), 5);
         check.due("most coaches", x.told(8), 0);

@@ -157,8 +157,27 @@ public final class SeenTest {
         check.due("keep(1) without a line", new LeftCoaches().keep(1), 1);
     }
 
+    /** Three rows of the book of lefts, with all that stands in them. */
+    private static void goBackToTheBook() {
+        LeftCoaches x = Check.of("l3 0;c1 1 0;c2 0 0;p0 0 0 0 9;p0 1 9 0 0;p0 2 8 0 1;");
+        x.horn(0);
+        x.horn(1);
+        x.keep(1);
+        x.book(1, 1);
+        x.horn(1);
+        check.due("how many", x.told(9), 3);
+        x.goBack(1);
+        int[][] want = {{1, 1, 2, 2, NONE}, {0, 0, 1, 1, NONE}, {NONE, NONE, NONE, NONE, NONE}};
+        for (int i = 0; i < want.length; i++) {
+            for (int what = 0; what < 5; what++) {
+                check.due("lefts(" + i + ", " + what + ")", x.lefts(i, what), want[i][what]);
+            }
+        }
+    }
+
     private static void goBack() {
         check.promise(34);
+        goBackToTheBook();
         LeftCoaches x = Check.of("l3 1;c0 1 0;p0 0 9 0 0;p0 0 5 1 0;");
         check.due("goBack(0)", x.goBack(0), NOT);
         check.due("goBack(2)", x.goBack(2), UNKNOWN);

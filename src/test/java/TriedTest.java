@@ -131,6 +131,9 @@ public final class TriedTest {
         check.due("scheme(1, 1, -1)", x.scheme(1, 1, -1), OUTSIDE);
         check.due("scheme(2, 0, 0)", x.scheme(2, 0, 0), UNKNOWN);
         check.due("scheme(-1, 1, 0)", x.scheme(-1, 1, 0), UNKNOWN);
+        x = Check.of("l4 0;c0 1 6;p0 0 3 3 0;p1 0 30 3 0;");
+        check.due("scheme(0, 1, 0): left is better than to pay", x.scheme(0, 1, 0), 7);
+        check.due("scheme(0, 1, 1)", x.scheme(0, 1, 1), 0);
         LeftCoaches y = Check.of("l4 0;c0 1 2;p0 0 9 3 0;p0 0 1 3 9;p0 1 4 3 0;");
         y.horn(0);
         y.book(1, 0);
