@@ -8,6 +8,9 @@ public final class LineTest {
         feeding();
         goodTexts();
         faults();
+        textsBehindLongerOnes();
+        fullTexts();
+        mostThenFewer();
         lineStartsAnew();
         faultLeavesAll();
         told();
@@ -131,6 +134,58 @@ public final class LineTest {
         bad("l2 0; l2 0;", 3, 6);
         bad("l2 0;c0 0 0;c0 0 0;c0 0 0;c0 0 0;c", 3, 33);
         bad("l2 0;p0 0 0 0 9;p0 0 0 0 9;p0 0 0 0 9;p0 0 0 0 9;p0 0 0 0 9;p0 0 0 0 9;p0 0 0 0 9;p", 3, 82);
+    }
+
+    /** What stands behind the end of the text, from a longer one ahead of it, is never read. */
+    private static void textsBehindLongerOnes() {
+        String longer = ";;;;;;;;;;;;00000000000000000000000000000000000000";
+        String[] texts = {"l2 0", "l2 0;c0 0 0", "l2 0;c0 0", "l2 0;p0 0 0 0 9", "l2 0;p0 0 0"};
+        for (String text : texts) {
+            LeftCoaches x = new LeftCoaches();
+            Check.feed(x, longer);
+            x.line();
+            Check.feed(x, text);
+            check.promise(3);
+            check.due("line() of '" + text + "' behind a longer one", x.line(), -11);
+            check.promise(4);
+            check.due("fault() of '" + text + "' behind a longer one", x.fault(), text.length());
+        }
+    }
+
+    private static void fullTexts() {
+        String blanks = " ".repeat(240);
+        good(blanks, 0);
+        good(("l2 0;" + blanks).substring(0, 240), 0);
+        good((blanks + "l2 0;").substring(5), 0);
+        bad((blanks + "l2 0").substring(4), 1, 240);
+        bad((blanks + "l").substring(1), 1, 240);
+        bad((blanks + "l2 0;c0 0 0").substring(11), 1, 240);
+        bad((blanks + "l2 00004").substring(8), 2, 235);
+    }
+
+    /** As many coaches and passengers as can be, then fewer: nothing of the first is seen in the second. */
+    private static void mostThenFewer() {
+        check.promise(3);
+        LeftCoaches x = new LeftCoaches();
+        Check.feed(x, "l7 0;c0 1 0;c0 1 0;c0 1 0;c0 1 0;p1 0 9 6 0;p1 0 9 6 0;p1 0 9 6 0;p1 0 9 6 0;p1 0 9 6 0;p1 0 9 6 3;p1 0 30 6 3;");
+        check.due("line()", x.line(), 7);
+        check.due("leastWait(3)", x.leastWait(3), 39);
+        check.due("left(3, 0)", x.left(3, 0), 96);
+        check.due("lights(20)", x.lights(20), NONE);
+        check.due("rounds(1)", x.rounds(1), 4);
+        check.due("FLEET", x.told(8), 0);
+        check.due("owned", x.told(6), 9);
+        check.due("EMPTY", x.told(7), 15);
+        check.due("OWNS", x.passenger(6, 7), 8);
+        Check.feed(x, "l2 3;c1 0 5;p0 1 4 0 0;");
+        check.due("line()", x.line(), 1);
+        check.due("BOOKED", x.coach(0, 5), 1);
+        check.due("EMPTY", x.told(7), 0);
+        check.due("owned", x.told(6), 0);
+        check.due("FLEET", x.told(8), NONE);
+        check.due("coach(1, 0)", x.coach(1, 0), UNKNOWN);
+        check.due("passenger(1, 0)", x.passenger(1, 0), UNKNOWN);
+        check.due("lights(20)", x.lights(20), 0);
     }
 
     private static void lineStartsAnew() {
