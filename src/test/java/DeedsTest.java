@@ -267,7 +267,9 @@ public final class DeedsTest {
             }
             y.rounds(1);
             check.due("drift(1)", x.drift(1), 3 * round);
-            check.due("alike after " + round, alike(x, y), 1);
+            if (round % 20 == 0) {
+                check.due("alike after " + round, alike(x, y), 1);
+            }
         }
         check.due("each deed was drawn", Math.min(Math.min(deeds[0], deeds[1]), Math.min(deeds[2], deeds[3])) > 0 ? 1 : 0, 1);
         check.due("THE SEED", x.seed(0), luck[0]);

@@ -243,6 +243,23 @@ public final class Edges19to25Test {
         edge.due("left(0, 0)", x.left(0, 0), 1);
     }
 
+    static void promise22_leastWait_ofAllSeven() {
+        String text = "l2 0;c0 1 0;";
+        for (int p = 0; p < 7; p++) {
+            text += "p0 0 " + (p + 10) + " 1 0;";
+            edge.due("leastWait(0) of " + (p + 1), Check.of(text).leastWait(0), p + 10);
+        }
+    }
+
+    static void promise22_leastWait_ofFewerThanOnTheLineAhead() {
+        LeftCoaches x = Check.of("l2 0;c0 1 0;p0 0 1 1 0;p0 0 30 1 0;p0 0 30 1 0;");
+        Check.feed(x, "l2 0;c0 1 0;p0 0 1 1 0;");
+        x.line();
+        edge.due("leastWait(0)", x.leastWait(0), 1);
+        edge.due("left(0, 0)", x.left(0, 0), 1);
+        edge.due("lights(1)", x.lights(1), 1);
+    }
+
     static void promise22_leastWait_whateverTheWaitIsNow() {
         LeftCoaches x = Check.of("l2 0;c0 1 0;p0 0 7 1 0;");
         edge.due("leastWait(0) by WAIT 0", x.leastWait(0), 7);

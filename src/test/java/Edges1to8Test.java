@@ -58,11 +58,42 @@ public final class Edges1to8Test {
         edge.due("write(0, NONE)", x.write(0, NONE), UNKNOWN);
     }
 
+    static void promise01_new_hasNothingTold() {
+        LeftCoaches x = new LeftCoaches();
+        for (int what = 0; what <= 12; what++) {
+            edge.due("told(" + what + ")", x.told(what), what == 8 ? NONE : 0);
+        }
+    }
+
+    static void promise01_new_hasNothingOfAnother() {
+        LeftCoaches other = Edges.busy();
+        LeftCoaches x = new LeftCoaches();
+        String ahead = Edges.all(other);
+        Check.feed(x, "l2 3;c0 1 1;p0 0 30 1 0;");
+        edge.due("line()", x.line(), 1);
+        x.rounds(30);
+        x.seed(5);
+        x.keep(0);
+        x.tear();
+        edge.due("the other is as it was", Edges.all(other).equals(ahead) ? 1 : 0, 1);
+        edge.due("its SEED, too", other.seed(0), 314159);
+        edge.due("and its image", other.goBack(0), 1);
+        edge.due("PASSENGERS", other.told(3), 5);
+        edge.due("THE SEED of a third", new LeftCoaches().seed(0), 0);
+    }
+
+    static void promise01_new_isGoodForFiveHundredAndTwelveCalls() {
+        LeftCoaches x = new LeftCoaches();
+        Check.feed(x, "l2 0;c0 1 0;p0 0 0 1 9;");
+        x.line();
+        for (int call = 25; call < 512; call++) {
+            x.slow(0, call % 31);
+        }
+        edge.due("the 512th", x.slow(0, 0), 511 % 31);
+    }
+
     static void promise01_new_hasNothingSeenWrittenKeptOrUndone() {
         LeftCoaches x = new LeftCoaches();
-        for (int what : new int[] {4, 5, 9, 10, 11, 12}) {
-            edge.due("told(" + what + ")", x.told(what), 0);
-        }
         edge.due("undo()", x.undo(), NOT);
         edge.due("goBack(0)", x.goBack(0), NOT);
         edge.due("goBack(1)", x.goBack(1), NOT);

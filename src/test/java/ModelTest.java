@@ -3,9 +3,9 @@ import java.util.HashMap;
 import java.util.Map;
 import java.util.Random;
 
-/** Random runs of 512 calls, every answer against Model; each run is the same every time. */
+/** Random runs of 512 calls at most, every answer against Model; each run is the same every time. */
 public final class ModelTest {
-    private static final int RUNS = 1500, CALLS = 512;
+    private static final int RUNS = 4000, CALLS = 512, CALLS_OF_A_LAST_LOOK = 240, CALLS_OF_A_TEXT = 150;
     private static final int[] WILD = {Integer.MIN_VALUE, Integer.MAX_VALUE, -2, 31, 32, 33, 64, 1 << 30, -1000000001};
 
     /** A call, how often it is drawn, and the bounds that its whole-number arguments are drawn from. */
@@ -22,6 +22,7 @@ public final class ModelTest {
     private static final Map<String, Method> models = new HashMap<>();
     private static int wrong = 0;
     private static long answers = 0;
+    private static int calls = 0;
 
     public static void main(String[] args) throws ReflectiveOperationException {
         for (Method method : LeftCoaches.class.getDeclaredMethods()) {
@@ -47,6 +48,7 @@ public final class ModelTest {
         Object got = ours.get(name).invoke(x, args);
         Object want = models.get(name).invoke(y, args);
         answers++;
+        calls++;
         if (!got.equals(want)) {
             wrong++;
             System.out.println("ModelTest, run " + run + ": " + name + java.util.Arrays.toString(args)
@@ -66,6 +68,7 @@ public final class ModelTest {
         Random random = new Random(run);
         LeftCoaches x = new LeftCoaches();
         Model y = new Model();
+        calls = 0;
         int weights = 0;
         for (Object[] row : CALLS_AND_BOUNDS) {
             weights += (Integer) row[1];
@@ -73,7 +76,8 @@ public final class ModelTest {
         if (run % 10 != 0) {
             tell(x, y, run, text(random));
         }
-        for (int i = 0; i < CALLS - 240 && wrong < 10; i++) {
+        int most = CALLS - CALLS_OF_A_LAST_LOOK;
+        while (calls < most && wrong < 10) {
             int drawn = random.nextInt(weights);
             int k = 0;
             while (drawn >= (Integer) CALLS_AND_BOUNDS[k][1]) {
@@ -81,7 +85,7 @@ public final class ModelTest {
                 k++;
             }
             compare(x, y, run, (String) CALLS_AND_BOUNDS[k][0], arguments(CALLS_AND_BOUNDS[k], random));
-            if (random.nextInt(300) == 0) {
+            if (calls + CALLS_OF_A_TEXT < most && random.nextInt(80) == 0) {
                 tell(x, y, run, random.nextBoolean() ? text(random) : spoilt(text(random), random));
             }
         }
@@ -108,10 +112,18 @@ public final class ModelTest {
     private static void lookAtAll(LeftCoaches x, Model y, int run) throws ReflectiveOperationException {
         for (int what = 0; what <= 12; what++) {
             compare(x, y, run, "told", what);
-            for (int i = 0; i < 7; i++) {
-                compare(x, y, run, "coach", i, what);
-                compare(x, y, run, "passenger", i, what);
+        }
+        for (int what = 0; what <= 5; what++) {
+            for (int c = 0; c < 4; c++) {
+                compare(x, y, run, "coach", c, what);
             }
+        }
+        for (int what = 0; what <= 8; what++) {
+            for (int p = 0; p < 7; p++) {
+                compare(x, y, run, "passenger", p, what);
+            }
+        }
+        for (int what = 0; what <= 4; what++) {
             for (int i = 0; i < 21; i++) {
                 compare(x, y, run, "lefts", i, what);
             }

@@ -164,25 +164,13 @@ public final class TriedTest {
         check.promise(20);
         LeftCoaches x = Check.of("l4 5;c0 1 6;c3 0 6;p0 0 8 3 0;p1 3 7 0 1;p2 2 11 3 0;p3 1 6 3 0;");
         x.rounds(2);
-        String ahead = all(x);
+        String ahead = Edges.all(x);
         x.left(0, 0);
         x.behind(0, 60, 2);
         x.comes(1);
         x.leastWait(1);
         x.lights(20);
         x.scheme(2, 20, 0);
-        check.due("all is as it was", ahead.equals(all(x)) ? 1 : 0, 1);
-    }
-
-    private static String all(LeftCoaches x) {
-        StringBuilder all = new StringBuilder();
-        for (int what = 0; what <= 12; what++) {
-            all.append(x.told(what)).append(' ');
-            for (int i = 0; i < 7; i++) {
-                all.append(x.coach(i, what)).append(' ').append(x.passenger(i, what)).append(' ');
-                all.append(x.lefts(i, what)).append(' ');
-            }
-        }
-        return all.toString();
+        check.due("all is as it was", ahead.equals(Edges.all(x)) ? 1 : 0, 1);
     }
 }
