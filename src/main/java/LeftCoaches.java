@@ -777,7 +777,7 @@ public final class LeftCoaches {
             int payee = owner[c];
             for (int p = 0; p < road.passengers; p++) {
                 if (in[p] == c) {
-                    if (payee >= 0 && payee != p) {
+                    if (road.hasPassenger(payee) && payee != p) {
                         pence[p]--;
                         pence[payee]++;
                     }
@@ -826,21 +826,20 @@ public final class LeftCoaches {
                 if (fault != 0 || pos >= size) {
                     break;
                 }
-                readClause(text[pos]);
+                judgeWord(text[pos]);
+                if (fault == 0) {
+                    readClause(text[pos]);
+                }
             }
             size = 0;
         }
 
-        void readClause(int word) {
+        void judgeWord(int word) {
             boolean stands = road.inns == 0 ? word == 'l' : word == 'l' || word == 'c' || word == 'p';
             if (!stands) {
                 blame(CANNOT_STAND, pos);
             } else if (isTooMany(word)) {
                 blame(TOO_MANY, pos);
-            } else {
-                pos++;
-                readNumbers(word);
-                readEnd();
             }
         }
 
@@ -854,7 +853,8 @@ public final class LeftCoaches {
             return road.inns > 0;
         }
 
-        void readNumbers(int word) {
+        void readClause(int word) {
+            pos++;
             if (word == 'l') {
                 readInns();
             } else if (word == 'c') {
@@ -862,6 +862,7 @@ public final class LeftCoaches {
             } else {
                 readPassenger(road.passengers);
             }
+            readEnd();
         }
 
         void readInns() {

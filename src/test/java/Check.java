@@ -19,7 +19,8 @@ final class Check {
             right++;
         } else {
             wrong++;
-            System.out.println(name + ", promise " + promise + ": " + call + " answered " + got + ", due is " + want);
+            String where = promise > 0 ? name + ", promise " + promise : name;
+            System.out.println(where + ": " + call + " answered " + got + ", due is " + want);
         }
     }
 

@@ -1,16 +1,11 @@
-import java.io.IOException;
 import java.lang.reflect.Constructor;
 import java.lang.reflect.Field;
 import java.lang.reflect.Method;
 import java.lang.reflect.Modifier;
-import java.nio.file.Files;
-import java.nio.file.Path;
 import java.util.Set;
 import java.util.TreeSet;
-import java.util.regex.Matcher;
-import java.util.regex.Pattern;
 
-/** The face of the class, and those rules of LANGUAGE.md that can be read off its members and its source. */
+/** The face of the class (rule 1 of LANGUAGE.md), and what its members show of the other rules. */
 public final class LanguageTest {
     private static final Check check = new Check("LanguageTest");
     private static final String[] FACE = {
@@ -19,15 +14,11 @@ public final class LanguageTest {
         "drift int", "undo", "left int int", "behind int int int", "comes int", "leastWait int", "lights int",
         "scheme int int int", "clear int int", "see int int int boolean", "truly int", "tryNext", "write int int",
         "tear", "judge", "seed int", "keep int", "goBack int"};
-    private static final String[] RULED_OUT = {
-        "throw", "try", "catch", "synchronized", "assert", "import", "package", "native", "volatile", "transient",
-        "->", "::", "Exact", "hashCode", "toString", "String\\.format", "System\\.(?!arraycopy)", "Object\\b", "@\\w+"};
 
-    public static void main(String[] args) throws IOException {
+    public static void main(String[] args) {
         face();
         constants();
         nested();
-        source(Files.readString(Path.of(args.length > 0 ? args[0] : "src/main/java/LeftCoaches.java")));
         check.end();
     }
 
@@ -91,34 +82,5 @@ public final class LanguageTest {
                 }
             }
         }
-    }
-
-    private static void source(String source) {
-        check.due("signs are 1 to 127", source.chars().allMatch(sign -> sign > 0 && sign < 128) ? 1 : 0, 1);
-        String code = source.replaceAll("(?s)/\\*.*?\\*/", "").replaceAll("//[^\n]*", "");
-        for (String word : RULED_OUT) {
-            String whole = Character.isLetter(word.charAt(0)) && !word.equals("Exact") ? "\\b" + word : word;
-            Matcher matcher = Pattern.compile(whole + (word.matches("[a-z]+") ? "\\b" : "")).matcher(code);
-            check.due("'" + word + "' in the source", matcher.find() ? 1 : 0, 0);
-        }
-        shortMethods(source.split("\n"));
-    }
-
-    /** A method ends at the first closing bracket that stands as far in as the method begins. */
-    private static void shortMethods(String[] lines) {
-        Pattern head = Pattern.compile("( {4}| {8})(?! |return|\\}).*\\) \\{");
-        int methods = 0;
-        for (int i = 0; i < lines.length; i++) {
-            Matcher matcher = head.matcher(lines[i]);
-            if (matcher.matches() && !lines[i].trim().matches("(if|for|while|switch) .*")) {
-                int end = i;
-                while (end < lines.length && !lines[end].equals(matcher.group(1) + "}")) {
-                    end++;
-                }
-                methods++;
-                check.due("line " + (i + 1) + ": at most sixty lines", end - i < 60 ? 1 : 0, 1);
-            }
-        }
-        check.due("methods are found", methods > 50 ? 1 : 0, 1);
     }
 }
